@@ -20,7 +20,7 @@ public final class RandomRunsTest {
         "5 trace day name", "4 held day bit", "2 within within", "5 fate call", "5 sign name name day day",
         "4 tree name day day three", "5 lacks name day day", "4 show day day", "3 hearer hearer cell cell",
         "12 bearing hearer name day slope slope width", "4 patch name day bit", "4 isIn name day cell cell",
-        "3 moved name day day", "6 listen wave hour hour", "6 silent name hour silence", "3 event hour",
+        "3 moved name day day", "6 listen wave hour hour", "6 listen wave hour late", "6 silent name hour silence", "3 event hour",
         "5 ahead name silence four", "4 waves many day day three", "2 keep", "2 back", "3 count seven",
     };
 
@@ -37,6 +37,7 @@ public final class RandomRunsTest {
     private final int pauses;
     private final int minutesUsed;
     private final int wrongOf;
+    private final boolean narrow;
     private int calls = 0;
 
     private RandomRunsTest(long seed) {
@@ -48,6 +49,7 @@ public final class RandomRunsTest {
         wavesUsed = 1 + chance.nextInt(8);
         pauses = 1 + chance.nextInt(100);
         minutesUsed = 1 + chance.nextInt(4);
+        narrow = chance.nextBoolean();
         wrongOf = chance.nextBoolean() ? 40 : 1000;
         for (String line : FACE) {
             int often = Integer.parseInt(line.substring(0, line.indexOf(' ')));
@@ -75,6 +77,7 @@ public final class RandomRunsTest {
                 if (i < 60 && chance.nextInt(3) > 0) words = FACE[0].substring(3).split(" ");
                 Object[] numbers = new Object[words.length - 1];
                 for (int n = 0; n < numbers.length; n++) numbers[n] = number(words[n + 1]);
+                sortSpans(words, numbers);
                 right = agree(words[0], numbers);
             }
             if (!right) {
@@ -84,6 +87,18 @@ public final class RandomRunsTest {
             }
         }
         return true;
+    }
+
+    /** DAYS and HOURS that are told from one to another are mostly told the right way round. */
+    private void sortSpans(String[] words, Object[] numbers) {
+        for (int n = 0; n + 1 < numbers.length; n++) {
+            boolean span = words[n + 1].equals(words[n + 2]) && (words[n + 1].equals("day") || words[n + 1].equals("hour"));
+            if (span && (int) numbers[n] > (int) numbers[n + 1] && chance.nextInt(8) > 0) {
+                Object first = numbers[n];
+                numbers[n] = numbers[n + 1];
+                numbers[n + 1] = first;
+            }
+        }
     }
 
     private boolean agree(String name, Object... numbers) throws Exception {
@@ -150,6 +165,7 @@ public final class RandomRunsTest {
             case "day" -> day;
             case "midnight" -> chance.nextInt(5) == 0 ? upTo(18) : Math.min(18, day);
             case "hour" -> 24 * day + chance.nextInt(hoursOfDay);
+            case "late" -> 479 - upTo(100);
             case "minutes" -> chance.nextInt(20) == 0 ? 99 : 1 + chance.nextInt(minutesUsed);
             case "wave" -> chance.nextInt(wavesUsed);
             case "pause" -> chance.nextInt(pauses);
@@ -159,7 +175,7 @@ public final class RandomRunsTest {
             case "hearer" -> upTo(3);
             case "cell" -> upTo(15);
             case "slope" -> upTo(18) - 9;
-            case "width" -> 1 + upTo(19);
+            case "width" -> 1 + upTo(narrow ? 3 : 19);
             case "silence" -> 1 + upTo(chance.nextInt(3) == 0 ? 47 : 5);
             case "many" -> 1 + upTo(7);
             case "bit" -> upTo(1);
