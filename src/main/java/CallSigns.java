@@ -834,6 +834,7 @@ public final class CallSigns {
     /**
      * The pairing FOLLOWED at a midnight. The senders of the DAY are gone through from the lowest
      * on; the set of those of the next DAY that are used up is all that matters to the later ones.
+     * The number behind the last one of the next DAY stands for none: so it is the last choice.
      */
     private static final class Pairing {
         private static final int MOST = 8;
@@ -883,7 +884,7 @@ public final class CallSigns {
             int left = (1 << NAMES) - 1;
             for (int name = 0; name < NAMES; name++) {
                 if (isSure(name)) {
-                    left &= 1 << (becomes[name] - name + NAMES) % NAMES;
+                    left &= 1 << ((becomes[name] - name + NAMES) % NAMES);
                 }
             }
             return left;
@@ -914,23 +915,18 @@ public final class CallSigns {
 
         /** The sum from the i-th sender on, if it goes with the j-th one; NO: it may not. */
         private int sumWith(int i, int used, int j) {
-            if (isNobody(j)) {
+            if (j >= next.size) {
                 return bests[(i + 1) * SETS + used];
             }
             int like = likes[i * MOST + j];
             if (like == 0 || (used >> j & 1) != 0) {
                 return NO;
             }
-            return like + bests[(i + 1) * SETS + usedWith(used, j)];
-        }
-
-        // The number behind the last sender stands for none: so none comes last of all choices.
-        private boolean isNobody(int j) {
-            return j >= next.size;
+            return like + bests[(i + 1) * SETS + (used | 1 << j)];
         }
 
         private int usedWith(int used, int j) {
-            return isNobody(j) ? used : used | 1 << j;
+            return j >= next.size ? used : used | 1 << j;
         }
 
         private boolean keepsBest(int i, int used, int j) {
@@ -944,7 +940,7 @@ public final class CallSigns {
             for (int i = 0; i < today.size; i++) {
                 int j = firstChoice(i, used);
                 used = usedWith(used, j);
-                if (!isNobody(j)) {
+                if (j < next.size) {
                     becomes[today.names[i]] = next.names[j];
                     cameFrom[next.names[j]] = today.names[i];
                 }
@@ -963,15 +959,21 @@ public final class CallSigns {
         // A pair is SURE, if on every way to the greatest sum its sender has this one choice.
         private void findSure() {
             sure = 0;
-            for (int state = 0; state < reached.length; state++) {
-                reached[state] = false;
-            }
+            clearReached();
             reached[0] = true;
             for (int i = 0; i < today.size; i++) {
                 int choices = choicesOf(i);
                 boolean maybeNone = (choices >> next.size & 1) != 0;
                 if (!maybeNone && Integer.bitCount(choices) == 1) {
                     sure |= 1 << today.names[i];
+                }
+            }
+        }
+
+        private void clearReached() {
+            for (int i = 0; i <= today.size; i++) {
+                for (int used = 0; used < 1 << next.size; used++) {
+                    reached[i * SETS + used] = false;
                 }
             }
         }
@@ -1353,9 +1355,7 @@ public final class CallSigns {
         int leastWay(int name, int day, int other) {
             fit(name, day, cells);
             fit(name, other, otherCells);
-            if (sizeOf(cells) == 0 || sizeOf(otherCells) == 0) {
-                return NONE;
-            }
+            // Any two CELLS are less than SIDE apart, so only with an empty PATCH they never meet.
             for (int way = 0; way < SIDE; way++) {
                 if (doMeet(cells, otherCells)) {
                     return way;

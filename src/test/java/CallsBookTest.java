@@ -94,6 +94,16 @@ public final class CallsBookTest {
         c.wipe();
         Due.write(c, forty.substring(0, 195) + "k1,1,");
         Due.due("5: in the last item", c.fault(), 195);
+        for (String end : new String[] {"k1,11", "k1,1,", "k1111", "kkkkk", "k1,,,", ",1,1;"}) {
+            c.wipe();
+            Due.write(c, forty.substring(0, 195) + end);
+            Due.due("5: at the very end " + end, c.fault(), 195);
+        }
+        c.wipe();
+        Due.write(c, forty.substring(0, 195) + "k1,1");
+        Due.due("5: what was written before does not count", c.fault(), 195);
+        c.write(1, ';');
+        Due.due("5: whole", c.fault(), Due.NONE);
     }
 
     private static void wiping() {
@@ -106,6 +116,8 @@ public final class CallsBookTest {
         Due.due("4: TAKEN stays", c.name(3, 0), 4);
         Due.due("4: items stay", c.count(2), 1);
         Due.due("4: no fault", c.fault(), Due.NONE);
+        Due.write(c, "p3,4");
+        Due.due("4: the old ; is gone", c.fault(), 0);
     }
 
     private static void faults() {
@@ -118,7 +130,7 @@ public final class CallsBookTest {
             "x1,2,0003;", "p,1;", "p1,;", "p1;", "p;", "p", "p1", "p1,", "p1,2", "p1,2,", "p1,2,3;", "k1,2,3;",
             "x1,2;", "x1,2,3", "x1,2,3,4;", "k", "x", "q1,2;", "P1,2;", "K1,2;", "X1,2,3;", ";", ",", "1", " ",
             "p-1,2;", "p+1,2;", "p 1,2;", "p1 ,2;", "p1.2;", "p1,2:", "\u0000", "\u00ff", "p\u00b1,2;", "p1:2;",
-            "p/,1;", "p:,1;"}) {
+            "p/,1;", "p:,1;", "q1;", "q;", "1;"}) {
             fault(one, 0);
             fault("p7,8;" + one, 5);
             fault("k1,1;x1,2,13;" + one + "q", 13);

@@ -240,6 +240,11 @@ public final class HandsNamesTest {
         Due.take(c, "p0,0;p2,2;p3,3;k3,1;");
         Due.due("18: 1 had no post", c.held(1, 0), 2);
         Due.due("18: one is right", c.held(1, 1), 1);
+        Due.take(c, "p0,0;p2,3;");
+        Due.due("18: on day 0 each is traced to itself", c.held(0, 0), 1);
+        Due.add(c, on(1, 0, 7, 7, 1));
+        Due.due("18: 0 now goes on as 0", c.follow(0, 0, 0), 0);
+        Due.due("18: NAME 0 counts, too", c.held(1, 1), 1);
         Due.due("18: nobody sends", c.held(5, 0), 0);
         Due.range("18: day", n -> c.held(n, 0), 0, 19);
         Due.range("18: what", n -> c.held(1, n), 0, 1);

@@ -16,6 +16,7 @@ public final class PlacesSilenceTest {
         keepAndBack();
         keptTwice();
         whatIsNotKept();
+        backIsAsBefore();
         count();
         Due.end("PlacesSilenceTest");
     }
@@ -211,6 +212,8 @@ public final class PlacesSilenceTest {
         Due.due("33: a long one", c.ahead(0, 10, 0), 1);
         Due.due("33: longer", c.ahead(0, 11, 2), 0);
         Due.due("33: of which", c.ahead(0, 11, 1), 7);
+        Due.due("33: the first event counts", Due.with().ahead(0, 2, 1), 0);
+        Due.due("33: in hours 2 and later", c.ahead(0, 2, 1), 9);
         Due.due("33: another one", c.ahead(1, 3, 0), 0);
         Due.due("33: another one", c.ahead(1, 3, 2), 0);
         Due.due("33: of as many", c.ahead(1, 3, 1), 8);
@@ -318,6 +321,39 @@ public final class PlacesSilenceTest {
         Due.due("36: the book stays", c.name(1, 0), 2);
         Due.due("36: the text stays", c.count(1), 6);
         Due.due("36: the items stay", c.count(2), 1);
+    }
+
+    /** Answers to many questions, so that two states can be held against one another. */
+    private static int[] answers(CallSigns c) {
+        return new int[] {c.hands(), c.hand(0), c.odds(0, 1, 0), c.odds(0, 1, 1), c.like(0, 0, 1), c.sum(0),
+            c.follow(0, 0, 1), c.rules(0), c.trace(1, 1), c.held(1, 0), c.fate(0), c.sign(0, 1, 0, 1), c.tree(0, 0, 1, 0),
+            c.tree(0, 0, 1, 2), c.lacks(0, 0, 1), c.lacks(1, 0, 1), c.show(0, 1), c.patch(0, 0, 0), c.moved(0, 0, 1),
+            c.silent(0, 20, 3), c.ahead(0, 3, 0), c.ahead(0, 3, 1), c.ahead(0, 3, 2), c.waves(1, 0, 1, 0),
+            c.waves(1, 0, 1, 1), c.waves(1, 0, 1, 2)};
+    }
+
+    private static void backIsAsBefore() {
+        CallSigns c = Due.with(Due.row(0, 1, 5, 1, 0, 10), Due.row(1, 2, 29, 3, 0, 20));
+        c.bearing(0, 0, 0, 1, 1, 5);
+        c.listen(0, 10, 18);
+        c.event(14);
+        Due.take(c, "p0,0;p1,1;");
+        int[] before = answers(c);
+        c.keep();
+        Due.add(c, Due.row(1, 0, 6, 2, 1, 10), Due.row(1, 3, 6, 1, 1, 11), Due.row(0, 1, 19, 2, 2, 9), Due.row(2, 1, 30, 3, 4, 20));
+        c.bearing(0, 0, 0, 1, 0, 1);
+        c.listen(0, 0, 479);
+        c.listen(1, 0, 479);
+        c.event(15);
+        int[] between = answers(c);
+        c.back();
+        int[] after = answers(c);
+        int changed = 0;
+        for (int i = 0; i < before.length; i++) {
+            Due.due("36: as before, answer " + i, after[i], before[i]);
+            changed += before[i] != between[i] ? 1 : 0;
+        }
+        Due.holds("36: between them much was otherwise: " + changed, changed >= 15);
     }
 
     private static void count() {
