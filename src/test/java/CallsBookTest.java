@@ -213,6 +213,8 @@ public final class CallsBookTest {
         Due.due("7: 1 to 0", c.name(1, 1), 0);
         Due.due("8: none is 1 now", c.post(1, 1), Due.NONE);
         Due.due("7: it stays so", c.name(0, 2), 2);
+        Due.take(c, "x0,1,1;p0,0;");
+        Due.due("7: x ahead of p", c.name(0, 1), 1);
         Due.take(c, "p0,0;p1,1;x1,2,1;x0,1,1;");
         Due.due("7: the other way round", c.name(0, 1), 1);
         Due.due("7: 1 to 2", c.name(1, 1), 2);

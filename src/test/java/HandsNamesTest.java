@@ -9,6 +9,7 @@ public final class HandsNamesTest {
         like();
         follow();
         followTies();
+        followAfterAnother();
         followTooMany();
         rules();
         trace();
@@ -53,6 +54,8 @@ public final class HandsNamesTest {
         c.apart(79);
         Due.due("11: T 79", c.hands(), 1);
         Due.due("10: all are by the lowest call's", c.hand(6), 0);
+        CallSigns low = Due.with(Due.row(0, 1, 0, 1, 0, 3), Due.row(0, 1, 0, 1, 0, 0), Due.row(0, 1, 0, 1, 0, 6));
+        for (int call = 0; call < 3; call++) Due.due("10: from pause 0 on", low.hand(call), 0);
         Due.due("11: none", new CallSigns().hands(), 0);
         Due.due("10: none", new CallSigns().hand(0), Due.BAD);
     }
@@ -123,6 +126,13 @@ public final class HandsNamesTest {
         c.call(0, 1, 23, 1, 6, 99);
         Due.due("14: with LIKE 0 it goes with none", c.follow(0, 0, 0), Due.NONE);
         Due.due("14: with LIKE 0 it goes with none, sure", c.follow(0, 0, 1), Due.NONE);
+        Due.due("15: it brings nothing", c.sum(0), 4);
+        Due.due("14: 1 as before", c.follow(0, 1, 0), 6);
+        Due.due("14: 2 as before", c.follow(0, 2, 0), 5);
+        Due.due("14: sure as before", c.follow(0, 1, 1) + c.follow(0, 2, 1), 2);
+        Due.add(c, on(5, 1, 0, 0, 0), on(6, 2, 1, 1, 99));
+        c.sum(0);
+        Due.due("15: one midnight leaves nothing to another", c.sum(5), 0);
         CallSigns last = Due.with(on(18, 1, 0, 0, 0), on(19, 2, 0, 0, 0));
         Due.due("14: the last midnight", last.follow(18, 1, 0), 2);
         Due.due("15: the last midnight", last.sum(18), 6);
@@ -152,6 +162,34 @@ public final class HandsNamesTest {
         CallSigns e = Due.with(on(0, 4, 0, 0, 0), on(1, 7, 1, 0, 20), on(1, 6, 2, 0, 40));
         Due.due("14: the lower of two", e.follow(0, 4, 0), 6);
         Due.due("14: not sure", e.follow(0, 4, 1), 0);
+    }
+
+    /** What one midnight worked out must not show in the next one that is asked for. */
+    private static void followAfterAnother() {
+        CallSigns c = Due.with(on(0, 0, 23, 7, 99), on(0, 1, 0, 0, 0), on(1, 1, 0, 0, 0),
+                on(5, 1, 0, 0, 0), on(5, 2, 1, 1, 30), on(6, 5, 5, 1, 1), on(6, 6, 1, 6, 60));
+        Due.due("14: none with LIKE 0", c.follow(0, 0, 0), Due.NONE);
+        // 1 to 5 is 3, 2 to 5 is 2, 2 to 6 is 1: 2 would have 5, if 1 had not.
+        Due.due("14: 2 becomes 6", c.follow(5, 2, 0), 6);
+        c.follow(0, 0, 0);
+        Due.due("14: for sure", c.follow(5, 2, 1), 1);
+        Due.due("15: 3 and 1", c.sum(5), 4);
+        CallSigns d = new CallSigns();
+        for (int name = 0; name < 8; name++) Due.add(d, on(0, name, 0, 0, 0), on(1, name, 0, 0, 0));
+        Due.add(d, on(9, 0, 1, 1, 10), on(9, 1, 2, 2, 20), on(10, 0, 3, 3, 10), on(10, 1, 4, 4, 20));
+        d.sum(0);
+        Due.due("14: sure behind one where nothing is", d.follow(9, 0, 1), 1);
+        d.sum(0);
+        Due.due("14: the next too", d.follow(9, 1, 1), 1);
+        d.sum(0);
+        Due.due("16: by 0", d.rules(9), 1);
+        Due.due("16: nothing is sure", d.rules(0), 4095);
+        // 0 to 0 is 9, 1 to 0 and 1 to 1 are 6 each, as all are at the midnight ahead of DAY 1.
+        for (int pause : new int[] {10, 30, 50}) Due.add(d, on(13, 0, 1, 1, pause), on(14, 0, 2, 2, pause));
+        Due.add(d, on(14, 0, 2, 2, 70), on(13, 1, 2, 2, 70), on(13, 1, 3, 3, 90), on(14, 1, 3, 3, 90));
+        d.sum(0);
+        Due.due("14: 1 is 1 for sure", d.follow(13, 1, 1), 1);
+        Due.due("15: 9 and 6", d.sum(13), 15);
     }
 
     private static void followTooMany() {
@@ -185,6 +223,7 @@ public final class HandsNamesTest {
         Due.range("16: day", c::rules, 0, 18);
         CallSigns d = Due.with(on(0, 5, 0, 0, 0), on(1, 5, 0, 0, 0));
         Due.due("16: by 0", d.rules(0), 1);
+        Due.due("16: 0 becomes 5", Due.with(on(0, 0, 0, 0, 0), on(1, 5, 0, 0, 0)).rules(0), 32);
         CallSigns e = Due.with(on(3, 5, 0, 0, 0), on(4, 4, 0, 0, 0));
         Due.due("16: by 11", e.rules(3), 1 << 11);
     }

@@ -204,6 +204,13 @@ public final class OrdersShowTest {
         CallSigns d = Due.with(by(0, 1, 47, 5, 10), by(1, 0, 48, 6, 50));
         Due.due("23: answered on another day", d.lacks(0, 1, 1), 2);
         Due.due("23: answers one of another day", d.lacks(1, 2, 2), 1);
+        CallSigns e = Due.with(by(0, 1, 0, 1, 10), by(1, 0, 1, 2, 30), by(0, 1, 2, 1, 12));
+        Due.due("23: 1 answers and is answered", e.lacks(1, 0, 0), 0);
+        Due.due("23: 0 too, but both are as long", e.lacks(0, 0, 0), 4);
+        CallSigns f = Due.with(by(0, 1, 0, 1, 10), by(1, 2, 5, 2, 11));
+        Due.due("23: the hand is that of the very first call", f.lacks(1, 0, 0), 11);
+        e.apart(99);
+        Due.due("23: the first call is another's by that hand", e.lacks(1, 0, 0), 8);
         Due.range("23: name", n -> c.lacks(n, 0, 0), 0, 11);
         Due.range("23: d", n -> c.lacks(0, n, 19), 0, 19);
         Due.range("23: e", n -> c.lacks(0, 0, n), 0, 19);

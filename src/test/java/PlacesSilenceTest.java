@@ -17,6 +17,7 @@ public final class PlacesSilenceTest {
         keptTwice();
         whatIsNotKept();
         backIsAsBefore();
+        goneCalls();
         count();
         Due.end("PlacesSilenceTest");
     }
@@ -76,6 +77,8 @@ public final class PlacesSilenceTest {
         c.hearer(2, 0, 15);
         c.bearing(2, 1, 0, 0, -3, 1);
         Due.due("27: 15 and six beside", c.patch(1, 0, 0), 21);
+        // x: 6 by 21; y: 0 to 14 and 0 to 5 are 120 by 21.
+        Due.due("27: middle", c.patch(1, 0, 1), 5);
         Due.range("27: name", n -> c.patch(n, 3, 0), 0, 11);
         Due.range("27: day", n -> c.patch(3, n, 0), 0, 19);
         Due.range("27: what", n -> c.patch(3, 3, n), 0, 1);
@@ -220,6 +223,7 @@ public final class PlacesSilenceTest {
         Due.due("33: of as many", c.ahead(1, 48, 3), 432);
         c.listen(0, 0, 479);
         Due.due("33: all but the hour behind its call", c.ahead(0, 1, 2), 478);
+        Due.due("33: what is ahead of hour 3 does not count", c.ahead(0, 3, 0), 7);
         Due.range("33: name", n -> c.ahead(n, 3, 0), 0, 11);
         Due.range("33: s", n -> c.ahead(0, n, 0), 1, 48);
         Due.range("33: what", n -> c.ahead(0, 3, n), 0, 3);
@@ -354,6 +358,29 @@ public final class PlacesSilenceTest {
             changed += before[i] != between[i] ? 1 : 0;
         }
         Due.holds("36: between them much was otherwise: " + changed, changed >= 15);
+    }
+
+    /** A CALL that back took away must leave nothing behind. */
+    private static void goneCalls() {
+        CallSigns c = Due.with(Due.row(1, 0, 11, 1, 0, 0));
+        c.listen(0, 0, 479);
+        c.keep();
+        Due.add(c, Due.row(0, 1, 10, 1, 0, 50));
+        Due.due("21: answered", c.sign(0, 1, 0, 0), 2);
+        Due.due("23: answering", c.lacks(1, 0, 0), 1);
+        c.back();
+        Due.due("21: gone", c.sign(0, 1, 0, 0), 0);
+        Due.due("23: answering nobody", c.lacks(1, 0, 0), 3);
+        c.keep();
+        Due.add(c, Due.row(1, 0, 50, 1, 0, 0));
+        Due.due("31: called", c.silent(1, 60, 20), 0);
+        c.back();
+        Due.due("31: silent", c.silent(1, 60, 20), 1);
+        c.keep();
+        Due.add(c, Due.row(1, 0, 300, 1, 7, 0));
+        Due.due("31: on a wave that was not listened to", c.silent(1, 60, 20), 0);
+        c.back();
+        Due.due("31: no such wave", c.silent(1, 60, 20), 1);
     }
 
     private static void count() {
