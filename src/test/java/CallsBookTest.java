@@ -38,14 +38,8 @@ public final class CallsBookTest {
         Due.due("2: first", c.call(0, 11, 0, 1, 0, 0), 0);
         Due.due("2: second", c.call(11, 0, 479, 99, 7, 99), 1);
         Due.due("2: the same once more", c.call(11, 0, 479, 99, 7, 99), 2);
-        Due.range("2: from", n -> c.call(n, 5, 0, 1, 0, 0), 0, 11);
-        Due.range("2: to", n -> c.call(5, n, 0, 1, 0, 0), 0, 11);
-        Due.range("2: hour", n -> c.call(0, 1, n, 1, 0, 0), 0, 479);
-        Due.range("2: minutes", n -> c.call(0, 1, 0, n, 0, 0), 1, 99);
-        Due.range("2: wave", n -> c.call(0, 1, 0, 1, n, 0), 0, 7);
-        Due.range("2: pause", n -> c.call(0, 1, 0, 1, 0, n), 0, 99);
         Due.due("2: to itself", c.call(3, 3, 0, 1, 0, 0), Due.BAD);
-        Due.due("2: what is BAD is not counted", c.count(0), 3 + 6 * 2);
+        Due.due("2: what is BAD is not counted", c.count(0), 3);
     }
 
     private static void callLimits() {
@@ -59,8 +53,6 @@ public final class CallsBookTest {
 
     private static void writing() {
         CallSigns c = new CallSigns();
-        Due.range("3: n", n -> c.write(n, 0L), 1, 8);
-        Due.due("3: length", c.wipe(), 9);
         // The highest of the n bytes comes first; what v has above them is not written.
         Due.due("3: three bytes", c.write(3, 0x7FAABB_70312CL), 3);
         Due.due("3: two more", c.write(2, -1L << 16 | 0x323B), 5);
@@ -189,10 +181,6 @@ public final class CallsBookTest {
             Due.due("8: POST 5 by its name on " + day, c.post(post5[day], day), 5);
         }
         Due.due("8: untold", c.post(0, 0), Due.NONE);
-        Due.range("7: post", n -> c.name(n, 0), 0, 11);
-        Due.range("7: day", n -> c.name(0, n), 0, 19);
-        Due.range("8: name", n -> c.post(n, 0), 0, 11);
-        Due.range("8: day", n -> c.post(0, n), 0, 19);
         Due.take(c, "k5,1;p1,7;");
         Due.due("7: 7 and 5 is 0", c.name(1, 1), 0);
         Due.due("7: k ahead of p", c.name(1, 2), 5);

@@ -1,10 +1,18 @@
+import java.io.IOException;
 import java.nio.charset.StandardCharsets;
+import java.nio.file.Files;
+import java.nio.file.Path;
+import java.util.Set;
+import java.util.TreeSet;
 
 /** What the tests share: answers held against those that are due, and short ways to fill an object. */
 final class Due {
     static final int BAD = -1, NO = -2, FULL = -3, NONE = -4;
+    private static final Set<Integer> PROMISES = new TreeSet<>();
     private static int wrong = 0;
     private static int asked = 0;
+    private static String sentence = "";
+    private static String document = null;
 
     private Due() { }
 
@@ -12,7 +20,7 @@ final class Due {
         asked++;
         if (got != want) {
             wrong++;
-            System.out.println(what + " answered " + got + ", due is " + want);
+            System.out.println(sentence + what + " answered " + got + ", due is " + want);
         }
     }
 
@@ -20,20 +28,42 @@ final class Due {
         due(what, so ? 1 : 0, 1);
     }
 
+    /** What follows holds the class to these words, which stand in the promise or in the Terms. */
+    static void says(int promise, String words) {
+        sentence = "";
+        String doc = document();
+        int start = doc.indexOf("## Promise " + promise + ":");
+        int end = doc.indexOf("\n## ", start + 1);
+        String terms = doc.substring(0, doc.indexOf("## Promise 1:"));
+        holds("the document says for promise " + promise + ": " + words,
+                start >= 0 && (doc.substring(start, end).contains(words) || terms.contains(words)));
+        PROMISES.add(promise);
+        sentence = promise + " (" + words + "): ";
+    }
+
+    private static String document() {
+        if (document == null) {
+            try {
+                document = Files.readString(Path.of(System.getProperty("doc", "../shared/DOC.md")));
+            } catch (IOException e) {
+                throw new IllegalStateException("the document is not where it should be", e);
+            }
+        }
+        return document;
+    }
+
+    /** The end of a test that quotes the document for each of these promises. */
+    static void end(String test, int firstPromise, int lastPromise) {
+        sentence = "";
+        for (int promise = firstPromise; promise <= lastPromise; promise++) {
+            holds("promise " + promise + " is tested", PROMISES.contains(promise));
+        }
+        end(test);
+    }
+
     static void end(String test) {
         System.out.println(test + ": " + asked + " answers, " + wrong + " not as due");
         if (wrong != 0 || asked == 0) System.exit(1);
-    }
-
-    interface OfOne { int of(int number); }
-
-    /** A number may be least to most; what is beside it is BAD, and so is what is far off. */
-    static void range(String what, OfOne call, int least, int most) {
-        for (int wrongOne : new int[] {least - 1, most + 1, Integer.MIN_VALUE, Integer.MAX_VALUE}) {
-            due(what + " with " + wrongOne, call.of(wrongOne), BAD);
-        }
-        holds(what + " with " + least + " is not BAD", call.of(least) != BAD);
-        holds(what + " with " + most + " is not BAD", call.of(most) != BAD);
     }
 
     static void write(CallSigns c, String text) {
@@ -68,5 +98,15 @@ final class Due {
 
     static int[] row(int... numbers) {
         return numbers;
+    }
+
+    /** A CALL of which only who SENDS, when, on which WAVE and with which PAUSE matters. */
+    static int[] on(int day, int name, int hourOfDay, int wave, int pause) {
+        return row(name, (name + 1) % 12, 24 * day + hourOfDay, 1, wave, pause);
+    }
+
+    /** A CALL of which only from whom, to whom, when and how long matters. */
+    static int[] at(int from, int to, int hour, int minutes) {
+        return row(from, to, hour, minutes, 0, 0);
     }
 }

@@ -25,7 +25,6 @@ public final class HandsNamesTest {
         Due.due("9: BAD", c.apart(100), Due.BAD);
         Due.due("9: BAD", c.apart(-1), Due.BAD);
         Due.due("9: unchanged", c.apart(0), 99);
-        Due.range("9: t", c::apart, 0, 99);
     }
 
     private static void hands() {
@@ -35,7 +34,6 @@ public final class HandsNamesTest {
         int[] due = {0, 1, 0, 0, 4};
         for (int call = 0; call < 5; call++) Due.due("10: hand of " + call, c.hand(call), due[call]);
         Due.due("11: hands", c.hands(), 3);
-        Due.range("10: call", c::hand, 0, 4);
         c.call(5, 6, 9, 1, 0, 12);
         Due.due("10: 12 joins 10 and 14", c.hand(1), 0);
         Due.due("10: and is of it", c.hand(5), 0);
@@ -69,9 +67,6 @@ public final class HandsNamesTest {
         Due.due("12: 4 apart", c.odds(1, 3, 0), 4);
         Due.due("12: 7 apart", c.odds(3, 0, 0), 6);
         Due.due("12: of all", c.odds(3, 0, 1), 6);
-        Due.range("12: a", n -> c.odds(n, 1, 0), 0, 3);
-        Due.range("12: b", n -> c.odds(1, n, 0), 0, 3);
-        Due.range("12: what", n -> c.odds(1, 2, n), 0, 1);
         Due.due("12: alike", c.odds(2, 2, 0), Due.BAD);
         Due.due("12: T is not looked at", c.apart(99), 3);
         Due.due("12: still", c.odds(1, 0, 0), 2);
@@ -94,20 +89,12 @@ public final class HandsNamesTest {
         Due.due("13: no hand is left", c.like(0, 0, 3), 6);
         c.apart(20);
         Due.due("13: one hand for all", c.like(0, 0, 3), 9);
-        Due.range("13: day", n -> c.like(n, 0, 3), 0, 18);
-        Due.range("13: a", n -> c.like(0, n, 3), 0, 11);
-        Due.range("13: b", n -> c.like(0, 0, n), 0, 11);
         Due.due("13: BAD ahead of NONE", c.like(19, 7, 8), Due.BAD);
-    }
-
-    /** CALLS with HANDS, WAVES and hours all their own but for those that are told. */
-    private static int[] on(int day, int name, int hourOfDay, int wave, int pause) {
-        return Due.row(name, (name + 1) % 12, 24 * day + hourOfDay, 1, wave, pause);
     }
 
     private static void follow() {
         // LIKE: 1 to 5 is 3 (hand), 1 to 6 is 2 (wave), 2 to 5 is 2 (wave), 2 to 6 is 0: 4 in all beats 3.
-        CallSigns c = Due.with(on(0, 1, 0, 0, 0), on(0, 2, 1, 1, 20), on(1, 5, 2, 1, 1), on(1, 6, 3, 0, 40));
+        CallSigns c = Due.with(Due.on(0, 1, 0, 0, 0), Due.on(0, 2, 1, 1, 20), Due.on(1, 5, 2, 1, 1), Due.on(1, 6, 3, 0, 40));
         Due.due("14: not the best one first", c.follow(0, 1, 0), 6);
         Due.due("14: 2 takes 5", c.follow(0, 2, 0), 5);
         Due.due("14: sure", c.follow(0, 1, 1), 1);
@@ -117,10 +104,6 @@ public final class HandsNamesTest {
         Due.due("14: does not send, sure", c.follow(0, 3, 1), Due.NONE);
         Due.due("14: another midnight", c.follow(1, 5, 0), Due.NONE);
         Due.due("15: another midnight", c.sum(1), 0);
-        Due.range("14: day", n -> c.follow(n, 1, 0), 0, 18);
-        Due.range("14: name", n -> c.follow(0, n, 0), 0, 11);
-        Due.range("14: what", n -> c.follow(0, 1, n), 0, 1);
-        Due.range("15: day", c::sum, 0, 18);
         c.call(7, 1, 27, 1, 7, 80);
         Due.due("14: nobody becomes 7", c.follow(0, 2, 0), 5);
         c.call(0, 1, 23, 1, 6, 99);
@@ -130,17 +113,17 @@ public final class HandsNamesTest {
         Due.due("14: 1 as before", c.follow(0, 1, 0), 6);
         Due.due("14: 2 as before", c.follow(0, 2, 0), 5);
         Due.due("14: sure as before", c.follow(0, 1, 1) + c.follow(0, 2, 1), 2);
-        Due.add(c, on(5, 1, 0, 0, 0), on(6, 2, 1, 1, 99));
+        Due.add(c, Due.on(5, 1, 0, 0, 0), Due.on(6, 2, 1, 1, 99));
         c.sum(0);
         Due.due("15: one midnight leaves nothing to another", c.sum(5), 0);
-        CallSigns last = Due.with(on(18, 1, 0, 0, 0), on(19, 2, 0, 0, 0));
+        CallSigns last = Due.with(Due.on(18, 1, 0, 0, 0), Due.on(19, 2, 0, 0, 0));
         Due.due("14: the last midnight", last.follow(18, 1, 0), 2);
         Due.due("15: the last midnight", last.sum(18), 6);
     }
 
     private static void followTies() {
         // 4 and 9 both could become 2 or 3: the lowest has the lower one, and nothing is sure.
-        CallSigns c = Due.with(on(0, 4, 0, 0, 0), on(0, 9, 1, 0, 20), on(1, 2, 2, 0, 40), on(1, 3, 3, 0, 60));
+        CallSigns c = Due.with(Due.on(0, 4, 0, 0, 0), Due.on(0, 9, 1, 0, 20), Due.on(1, 2, 2, 0, 40), Due.on(1, 3, 3, 0, 60));
         Due.due("14: the lowest has the lower", c.follow(0, 4, 0), 2);
         Due.due("14: the next the other", c.follow(0, 9, 0), 3);
         Due.due("14: not sure", c.follow(0, 4, 1), 0);
@@ -148,26 +131,26 @@ public final class HandsNamesTest {
         Due.due("15: both", c.sum(0), 4);
         Due.due("16: nothing sure", c.rules(0), 4095);
         // One for two: none counts as 12, so the lower one gets it.
-        CallSigns d = Due.with(on(0, 4, 0, 0, 0), on(0, 9, 1, 0, 20), on(1, 3, 2, 0, 40));
+        CallSigns d = Due.with(Due.on(0, 4, 0, 0, 0), Due.on(0, 9, 1, 0, 20), Due.on(1, 3, 2, 0, 40));
         Due.due("14: the lower gets it", d.follow(0, 4, 0), 3);
         Due.due("14: the other none", d.follow(0, 9, 0), Due.NONE);
         Due.due("14: not sure", d.follow(0, 4, 1), 0);
         Due.due("14: none is none", d.follow(0, 9, 1), Due.NONE);
         // A third one that shares nothing but a hand with the one of two is sure.
-        Due.add(d, on(0, 1, 3, 1, 60), on(1, 8, 4, 2, 61));
+        Due.add(d, Due.on(0, 1, 3, 1, 60), Due.on(1, 8, 4, 2, 61));
         Due.due("14: 1 is sure", d.follow(0, 1, 1), 1);
         Due.due("14: as 8", d.follow(0, 1, 0), 8);
         Due.due("16: by 7", d.rules(0), 1 << 7);
         // Two for one: which of them is open, though the one is paired in each pairing.
-        CallSigns e = Due.with(on(0, 4, 0, 0, 0), on(1, 7, 1, 0, 20), on(1, 6, 2, 0, 40));
+        CallSigns e = Due.with(Due.on(0, 4, 0, 0, 0), Due.on(1, 7, 1, 0, 20), Due.on(1, 6, 2, 0, 40));
         Due.due("14: the lower of two", e.follow(0, 4, 0), 6);
         Due.due("14: not sure", e.follow(0, 4, 1), 0);
     }
 
     /** What one midnight worked out must not show in the next one that is asked for. */
     private static void followAfterAnother() {
-        CallSigns c = Due.with(on(0, 0, 23, 7, 99), on(0, 1, 0, 0, 0), on(1, 1, 0, 0, 0),
-                on(5, 1, 0, 0, 0), on(5, 2, 1, 1, 30), on(6, 5, 5, 1, 1), on(6, 6, 1, 6, 60));
+        CallSigns c = Due.with(Due.on(0, 0, 23, 7, 99), Due.on(0, 1, 0, 0, 0), Due.on(1, 1, 0, 0, 0),
+                Due.on(5, 1, 0, 0, 0), Due.on(5, 2, 1, 1, 30), Due.on(6, 5, 5, 1, 1), Due.on(6, 6, 1, 6, 60));
         Due.due("14: none with LIKE 0", c.follow(0, 0, 0), Due.NONE);
         // 1 to 5 is 3, 2 to 5 is 2, 2 to 6 is 1: 2 would have 5, if 1 had not.
         Due.due("14: 2 becomes 6", c.follow(5, 2, 0), 6);
@@ -175,8 +158,8 @@ public final class HandsNamesTest {
         Due.due("14: for sure", c.follow(5, 2, 1), 1);
         Due.due("15: 3 and 1", c.sum(5), 4);
         CallSigns d = new CallSigns();
-        for (int name = 0; name < 8; name++) Due.add(d, on(0, name, 0, 0, 0), on(1, name, 0, 0, 0));
-        Due.add(d, on(9, 0, 1, 1, 10), on(9, 1, 2, 2, 20), on(10, 0, 3, 3, 10), on(10, 1, 4, 4, 20));
+        for (int name = 0; name < 8; name++) Due.add(d, Due.on(0, name, 0, 0, 0), Due.on(1, name, 0, 0, 0));
+        Due.add(d, Due.on(9, 0, 1, 1, 10), Due.on(9, 1, 2, 2, 20), Due.on(10, 0, 3, 3, 10), Due.on(10, 1, 4, 4, 20));
         d.sum(0);
         Due.due("14: sure behind one where nothing is", d.follow(9, 0, 1), 1);
         d.sum(0);
@@ -185,8 +168,8 @@ public final class HandsNamesTest {
         Due.due("16: by 0", d.rules(9), 1);
         Due.due("16: nothing is sure", d.rules(0), 4095);
         // 0 to 0 is 9, 1 to 0 and 1 to 1 are 6 each, as all are at the midnight ahead of DAY 1.
-        for (int pause : new int[] {10, 30, 50}) Due.add(d, on(13, 0, 1, 1, pause), on(14, 0, 2, 2, pause));
-        Due.add(d, on(14, 0, 2, 2, 70), on(13, 1, 2, 2, 70), on(13, 1, 3, 3, 90), on(14, 1, 3, 3, 90));
+        for (int pause : new int[] {10, 30, 50}) Due.add(d, Due.on(13, 0, 1, 1, pause), Due.on(14, 0, 2, 2, pause));
+        Due.add(d, Due.on(14, 0, 2, 2, 70), Due.on(13, 1, 2, 2, 70), Due.on(13, 1, 3, 3, 90), Due.on(14, 1, 3, 3, 90));
         d.sum(0);
         Due.due("14: 1 is 1 for sure", d.follow(13, 1, 1), 1);
         Due.due("15: 9 and 6", d.sum(13), 15);
@@ -194,12 +177,12 @@ public final class HandsNamesTest {
 
     private static void followTooMany() {
         CallSigns c = new CallSigns();
-        for (int name = 0; name < 8; name++) Due.add(c, on(0, name, 0, 0, 0), on(1, name, 0, 0, 0));
+        for (int name = 0; name < 8; name++) Due.add(c, Due.on(0, name, 0, 0, 0), Due.on(1, name, 0, 0, 0));
         Due.due("15: eight and eight", c.sum(0), 48);
         Due.due("14: all alike: 7 becomes 7", c.follow(0, 7, 0), 7);
         Due.due("14: not sure", c.follow(0, 7, 1), 0);
         c.keep();
-        Due.add(c, on(0, 8, 0, 0, 0));
+        Due.add(c, Due.on(0, 8, 0, 0, 0));
         Due.due("15: nine ahead", c.sum(0), Due.NO);
         Due.due("16: nine ahead", c.rules(0), Due.NO);
         Due.due("14: nine ahead", c.follow(0, 0, 0), Due.NO);
@@ -208,28 +191,27 @@ public final class HandsNamesTest {
         Due.due("13: like is not NO", c.like(0, 8, 0), 6);
         Due.due("15: the other midnight", c.sum(1), 0);
         c.back();
-        Due.add(c, on(1, 8, 0, 0, 0));
+        Due.add(c, Due.on(1, 8, 0, 0, 0));
         Due.due("15: nine behind", c.sum(0), Due.NO);
         Due.due("15: nine ahead of none", c.sum(1), Due.NO);
     }
 
     private static void rules() {
         // 10 becomes 1, 1 becomes 4: both by 3.
-        CallSigns c = Due.with(on(0, 10, 0, 0, 0), on(0, 1, 1, 1, 20), on(1, 1, 2, 2, 1), on(1, 4, 3, 3, 21));
+        CallSigns c = Due.with(Due.on(0, 10, 0, 0, 0), Due.on(0, 1, 1, 1, 20), Due.on(1, 1, 2, 2, 1), Due.on(1, 4, 3, 3, 21));
         Due.due("16: by 3", c.rules(0), 8);
-        Due.add(c, on(0, 5, 4, 4, 40), on(1, 5, 5, 5, 41));
+        Due.add(c, Due.on(0, 5, 4, 4, 40), Due.on(1, 5, 5, 5, 41));
         Due.due("16: 5 stays 5: none is left", c.rules(0), 0);
         Due.due("16: nothing is sure", c.rules(5), 4095);
-        Due.range("16: day", c::rules, 0, 18);
-        CallSigns d = Due.with(on(0, 5, 0, 0, 0), on(1, 5, 0, 0, 0));
+        CallSigns d = Due.with(Due.on(0, 5, 0, 0, 0), Due.on(1, 5, 0, 0, 0));
         Due.due("16: by 0", d.rules(0), 1);
-        Due.due("16: 0 becomes 5", Due.with(on(0, 0, 0, 0, 0), on(1, 5, 0, 0, 0)).rules(0), 32);
-        CallSigns e = Due.with(on(3, 5, 0, 0, 0), on(4, 4, 0, 0, 0));
+        Due.due("16: 0 becomes 5", Due.with(Due.on(0, 0, 0, 0, 0), Due.on(1, 5, 0, 0, 0)).rules(0), 32);
+        CallSigns e = Due.with(Due.on(3, 5, 0, 0, 0), Due.on(4, 4, 0, 0, 0));
         Due.due("16: by 11", e.rules(3), 1 << 11);
     }
 
     private static void trace() {
-        CallSigns c = Due.with(on(0, 3, 0, 0, 0), on(1, 8, 1, 1, 1), on(2, 2, 2, 2, 2), on(2, 9, 2, 7, 90));
+        CallSigns c = Due.with(Due.on(0, 3, 0, 0, 0), Due.on(1, 8, 1, 1, 1), Due.on(2, 2, 2, 2, 2), Due.on(2, 9, 2, 7, 90));
         Due.due("17: two midnights", c.trace(2, 2), 3);
         Due.due("17: one midnight", c.trace(1, 8), 3);
         Due.due("17: none", c.trace(0, 3), 3);
@@ -237,15 +219,13 @@ public final class HandsNamesTest {
         Due.due("17: does not send", c.trace(1, 3), Due.NONE);
         Due.due("17: none becomes it", c.trace(2, 9), Due.NONE);
         Due.due("17: nobody sends", c.trace(19, 2), Due.NONE);
-        Due.range("17: day", n -> c.trace(n, 2), 0, 19);
-        Due.range("17: name", n -> c.trace(2, n), 0, 11);
-        Due.add(c, on(4, 2, 2, 2, 2));
+        Due.add(c, Due.on(4, 2, 2, 2, 2));
         Due.due("17: a day without calls", c.trace(4, 2), Due.NONE);
     }
 
     private static void traceNo() {
-        CallSigns c = Due.with(on(1, 0, 23, 7, 70), on(2, 0, 23, 7, 70), on(2, 5, 5, 5, 50), on(3, 5, 5, 5, 50));
-        for (int name = 1; name <= 9; name++) Due.add(c, on(0, name, 0, 0, 0));
+        CallSigns c = Due.with(Due.on(1, 0, 23, 7, 70), Due.on(2, 0, 23, 7, 70), Due.on(2, 5, 5, 5, 50), Due.on(3, 5, 5, 5, 50));
+        for (int name = 1; name <= 9; name++) Due.add(c, Due.on(0, name, 0, 0, 0));
         Due.due("17: nine send on day 0", c.trace(2, 0), Due.NO);
         Due.due("17: the way ends ahead of the NO", c.trace(3, 5), Due.NONE);
         Due.due("17: none becomes it", c.trace(2, 5), Due.NONE);
@@ -265,8 +245,8 @@ public final class HandsNamesTest {
 
     private static void held() {
         // 0 becomes 3, 1 becomes 4, 2 becomes 6, 7 is new.
-        CallSigns c = Due.with(on(0, 0, 0, 0, 0), on(0, 1, 1, 1, 10), on(0, 2, 2, 2, 20),
-                on(1, 3, 3, 3, 0), on(1, 4, 4, 4, 10), on(1, 6, 5, 5, 20), on(1, 7, 6, 6, 90));
+        CallSigns c = Due.with(Due.on(0, 0, 0, 0, 0), Due.on(0, 1, 1, 1, 10), Due.on(0, 2, 2, 2, 20),
+                Due.on(1, 3, 3, 3, 0), Due.on(1, 4, 4, 4, 10), Due.on(1, 6, 5, 5, 20), Due.on(1, 7, 6, 6, 90));
         Due.due("18: without a book", c.held(1, 0), 0);
         Due.due("18: without a book", c.held(1, 1), 0);
         // By the book 2 becomes 5, and 6 is another post.
@@ -281,11 +261,9 @@ public final class HandsNamesTest {
         Due.due("18: one is right", c.held(1, 1), 1);
         Due.take(c, "p0,0;p2,3;");
         Due.due("18: on day 0 each is traced to itself", c.held(0, 0), 1);
-        Due.add(c, on(1, 0, 7, 7, 1));
+        Due.add(c, Due.on(1, 0, 7, 7, 1));
         Due.due("18: 0 now goes on as 0", c.follow(0, 0, 0), 0);
         Due.due("18: NAME 0 counts, too", c.held(1, 1), 1);
         Due.due("18: nobody sends", c.held(5, 0), 0);
-        Due.range("18: day", n -> c.held(n, 0), 0, 19);
-        Due.range("18: what", n -> c.held(1, n), 0, 1);
     }
 }

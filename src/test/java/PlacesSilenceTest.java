@@ -15,8 +15,6 @@ public final class PlacesSilenceTest {
         waves();
         keepAndBack();
         keptTwice();
-        whatIsNotKept();
-        backIsAsBefore();
         goneCalls();
         count();
         Due.end("PlacesSilenceTest");
@@ -29,9 +27,6 @@ public final class PlacesSilenceTest {
         Due.due("25: the others are where they were", c.hearer(1, 0, 0), 0);
         Due.due("25: BAD", c.hearer(2, 16, 0), Due.BAD);
         Due.due("25: unchanged", c.hearer(2, 0, 0), 79);
-        Due.range("25: hearer", n -> c.hearer(n, 0, 0), 0, 3);
-        Due.range("25: x", n -> c.hearer(0, n, 0), 0, 15);
-        Due.range("25: y", n -> c.hearer(0, 0, n), 0, 15);
     }
 
     private static void bearing() {
@@ -39,14 +34,8 @@ public final class PlacesSilenceTest {
         Due.due("26: one", c.bearing(0, 0, 0, 1, 0, 1), 1);
         Due.due("26: the same again", c.bearing(0, 0, 0, 1, 0, 1), 2);
         Due.due("26: no direction", c.bearing(0, 0, 0, 0, 0, 1), Due.BAD);
-        Due.range("26: hearer", n -> c.bearing(n, 0, 0, 1, 0, 1), 0, 3);
-        Due.range("26: name", n -> c.bearing(0, n, 0, 1, 0, 1), 0, 11);
-        Due.range("26: day", n -> c.bearing(0, 0, n, 1, 0, 1), 0, 19);
-        Due.range("26: u", n -> c.bearing(0, 0, 0, n, 1, 1), -9, 9);
-        Due.range("26: v", n -> c.bearing(0, 0, 0, 1, n, 1), -9, 9);
-        Due.range("26: w", n -> c.bearing(0, 0, 0, 1, 0, n), 1, 20);
-        Due.due("26: BAD is not counted", c.count(3), 14);
-        for (int i = 15; i <= 40; i++) Due.due("26: how many", c.bearing(3, 5, 5, 0, 9, 20), i);
+        Due.due("26: BAD is not counted", c.count(3), 2);
+        for (int i = 3; i <= 40; i++) Due.due("26: how many", c.bearing(3, 5, 5, 0, 9, 20), i);
         Due.due("26: 40 are all", c.bearing(3, 5, 5, 0, 9, 20), Due.FULL);
         Due.due("26: BAD ahead of FULL", c.bearing(4, 5, 5, 0, 9, 20), Due.BAD);
         Due.due("26: 40", c.count(3), 40);
@@ -79,9 +68,6 @@ public final class PlacesSilenceTest {
         Due.due("27: 15 and six beside", c.patch(1, 0, 0), 21);
         // x: 6 by 21; y: 0 to 14 and 0 to 5 are 120 by 21.
         Due.due("27: middle", c.patch(1, 0, 1), 5);
-        Due.range("27: name", n -> c.patch(n, 3, 0), 0, 11);
-        Due.range("27: day", n -> c.patch(3, n, 0), 0, 19);
-        Due.range("27: what", n -> c.patch(3, 3, n), 0, 1);
     }
 
     private static void fits() {
@@ -107,10 +93,6 @@ public final class PlacesSilenceTest {
         c.hearer(1, 15, 15);
         Due.due("28: beyond it", c.isIn(6, 7, 11, 9), 0);
         Due.due("28: another day", c.isIn(6, 8, 0, 0), 1);
-        Due.range("28: name", n -> c.isIn(n, 0, 0, 0), 0, 11);
-        Due.range("28: day", n -> c.isIn(0, n, 0, 0), 0, 19);
-        Due.range("28: x", n -> c.isIn(0, 0, n, 0), 0, 15);
-        Due.range("28: y", n -> c.isIn(0, 0, 0, n), 0, 15);
     }
 
     private static void moved() {
@@ -140,9 +122,6 @@ public final class PlacesSilenceTest {
         Due.due("29: to an empty one", c.moved(5, 0, 3), Due.NONE);
         Due.due("29: from an empty one", c.moved(5, 3, 0), Due.NONE);
         Due.due("29: an empty one to itself", c.moved(5, 3, 3), Due.NONE);
-        Due.range("29: name", n -> c.moved(n, 0, 1), 0, 11);
-        Due.range("29: day", n -> c.moved(0, n, 1), 0, 19);
-        Due.range("29: other", n -> c.moved(0, 0, n), 0, 19);
     }
 
     private static void listen() {
@@ -150,10 +129,7 @@ public final class PlacesSilenceTest {
         Due.due("30: one", c.listen(0, 0, 479), 1);
         Due.due("30: one hour", c.listen(7, 5, 5), 2);
         Due.due("30: a above b", c.listen(7, 6, 5), Due.BAD);
-        Due.range("30: wave", n -> c.listen(n, 0, 479), 0, 7);
-        Due.range("30: a", n -> c.listen(0, n, 479), 0, 479);
-        Due.range("30: b", n -> c.listen(0, 0, n), 0, 479);
-        for (int i = 9; i <= 20; i++) Due.due("30: how many", c.listen(1, 1, 2), i);
+        for (int i = 3; i <= 20; i++) Due.due("30: how many", c.listen(1, 1, 2), i);
         Due.due("30: 20 are all", c.listen(1, 1, 2), Due.FULL);
         Due.due("30: BAD ahead of FULL", c.listen(1, 2, 1), Due.BAD);
         Due.due("30: 20", c.count(4), 20);
@@ -186,18 +162,13 @@ public final class PlacesSilenceTest {
         c.listen(6, 46, 479);
         Due.due("31: both", c.silent(2, 51, 5), 1);
         Due.due("31: not both", c.silent(2, 51, 6), 0);
-        Due.range("31: name", n -> c.silent(n, 50, 5), 0, 11);
-        Due.range("31: t", n -> c.silent(2, n, 1), 1, 479);
-        Due.range("31: s", n -> c.silent(2, 479, n), 1, 48);
         Due.due("31: t below s", c.silent(2, 4, 5), Due.BAD);
         Due.due("31: t is s", c.silent(2, 5, 5), 0);
     }
 
     private static void event() {
         CallSigns c = new CallSigns();
-        Due.range("32: hour", c::event, 0, 479);
-        Due.due("32: counted", c.count(5), 2);
-        for (int i = 3; i <= 10; i++) Due.due("32: how many", c.event(7), i);
+        for (int i = 1; i <= 10; i++) Due.due("32: how many", c.event(7), i);
         Due.due("32: 10 are all", c.event(7), Due.FULL);
         Due.due("32: BAD ahead of FULL", c.event(480), Due.BAD);
         Due.due("32: 10", c.count(5), 10);
@@ -224,9 +195,6 @@ public final class PlacesSilenceTest {
         c.listen(0, 0, 479);
         Due.due("33: all but the hour behind its call", c.ahead(0, 1, 2), 478);
         Due.due("33: what is ahead of hour 3 does not count", c.ahead(0, 3, 0), 7);
-        Due.range("33: name", n -> c.ahead(n, 3, 0), 0, 11);
-        Due.range("33: s", n -> c.ahead(0, n, 0), 1, 48);
-        Due.range("33: what", n -> c.ahead(0, 3, n), 0, 3);
     }
 
     private static void waves() {
@@ -247,10 +215,6 @@ public final class PlacesSilenceTest {
         Due.due("34: a day without", c.waves(2, 2, 19, 0), 3);
         Due.due("34: a day without", c.waves(2, 2, 19, 1), 0);
         Due.due("34: all waves", c.waves(8, 0, 19, 0), 255);
-        Due.range("34: k", n -> c.waves(n, 0, 0, 0), 1, 8);
-        Due.range("34: d", n -> c.waves(1, n, 19, 0), 0, 19);
-        Due.range("34: e", n -> c.waves(1, 0, n, 0), 0, 19);
-        Due.range("34: what", n -> c.waves(1, 0, 0, n), 0, 2);
         Due.due("34: d above e", c.waves(1, 1, 0, 0), Due.BAD);
     }
 
@@ -310,56 +274,6 @@ public final class PlacesSilenceTest {
         Due.due("2: still full", c.call(0, 1, 0, 1, 0, 0), Due.FULL);
     }
 
-    private static void whatIsNotKept() {
-        CallSigns c = new CallSigns();
-        c.keep();
-        c.apart(9);
-        c.within(8);
-        c.hearer(1, 2, 3);
-        Due.take(c, "p1,2;");
-        Due.write(c, "k");
-        c.back();
-        Due.due("36: T stays", c.apart(3), 9);
-        Due.due("36: H stays", c.within(2), 8);
-        Due.due("36: hearers stay", c.hearer(1, 0, 0), 35);
-        Due.due("36: the book stays", c.name(1, 0), 2);
-        Due.due("36: the text stays", c.count(1), 6);
-        Due.due("36: the items stay", c.count(2), 1);
-    }
-
-    /** Answers to many questions, so that two states can be held against one another. */
-    private static int[] answers(CallSigns c) {
-        return new int[] {c.hands(), c.hand(0), c.odds(0, 1, 0), c.odds(0, 1, 1), c.like(0, 0, 1), c.sum(0),
-            c.follow(0, 0, 1), c.rules(0), c.trace(1, 1), c.held(1, 0), c.fate(0), c.sign(0, 1, 0, 1), c.tree(0, 0, 1, 0),
-            c.tree(0, 0, 1, 2), c.lacks(0, 0, 1), c.lacks(1, 0, 1), c.show(0, 1), c.patch(0, 0, 0), c.moved(0, 0, 1),
-            c.silent(0, 20, 3), c.ahead(0, 3, 0), c.ahead(0, 3, 1), c.ahead(0, 3, 2), c.waves(1, 0, 1, 0),
-            c.waves(1, 0, 1, 1), c.waves(1, 0, 1, 2)};
-    }
-
-    private static void backIsAsBefore() {
-        CallSigns c = Due.with(Due.row(0, 1, 5, 1, 0, 10), Due.row(1, 2, 29, 3, 0, 20));
-        c.bearing(0, 0, 0, 1, 1, 5);
-        c.listen(0, 10, 18);
-        c.event(14);
-        Due.take(c, "p0,0;p1,1;");
-        int[] before = answers(c);
-        c.keep();
-        Due.add(c, Due.row(1, 0, 6, 2, 1, 10), Due.row(1, 3, 6, 1, 1, 11), Due.row(0, 1, 19, 2, 2, 9), Due.row(2, 1, 30, 3, 4, 20));
-        c.bearing(0, 0, 0, 1, 0, 1);
-        c.listen(0, 0, 479);
-        c.listen(1, 0, 479);
-        c.event(15);
-        int[] between = answers(c);
-        c.back();
-        int[] after = answers(c);
-        int changed = 0;
-        for (int i = 0; i < before.length; i++) {
-            Due.due("36: as before, answer " + i, after[i], before[i]);
-            changed += before[i] != between[i] ? 1 : 0;
-        }
-        Due.holds("36: between them much was otherwise: " + changed, changed >= 15);
-    }
-
     /** A CALL that back took away must leave nothing behind. */
     private static void goneCalls() {
         CallSigns c = Due.with(Due.row(1, 0, 11, 1, 0, 0));
@@ -385,7 +299,6 @@ public final class PlacesSilenceTest {
 
     private static void count() {
         CallSigns c = new CallSigns();
-        Due.range("37: what", c::count, 0, 6);
         for (int i = 0; i < 3; i++) c.call(0, 1, 0, 1, 0, 0);
         Due.take(c, "p1,2;k1,1;");
         Due.write(c, "k1");

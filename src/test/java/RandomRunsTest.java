@@ -67,14 +67,14 @@ public final class RandomRunsTest {
     }
 
     private boolean isRight(int seed) throws Exception {
-        for (int i = 0; i < CALLS; i++) {
+        while (story.size() < CALLS) {
             boolean right;
             if (chance.nextInt(60) == 0) {
                 right = writeText();
             } else {
                 String[] words = lots.get(chance.nextInt(lots.size())).split(" ");
                 // Fill up early in the run, ask later.
-                if (i < 60 && chance.nextInt(3) > 0) words = FACE[0].substring(3).split(" ");
+                if (story.size() < 60 && chance.nextInt(3) > 0) words = FACE[0].substring(3).split(" ");
                 Object[] numbers = new Object[words.length - 1];
                 for (int n = 0; n < numbers.length; n++) numbers[n] = number(words[n + 1]);
                 sortSpans(words, numbers);
@@ -102,6 +102,8 @@ public final class RandomRunsTest {
     }
 
     private boolean agree(String name, Object... numbers) throws Exception {
+        // What an object answers behind its 512th call is free.
+        if (story.size() == CALLS) return true;
         Class<?>[] types = new Class<?>[numbers.length];
         Arrays.fill(types, int.class);
         if (name.equals("write")) types[1] = long.class;
