@@ -208,6 +208,7 @@ public final class EdgesBookTest {
             boolean twoNumbers = letter == 'p' || letter == 'k';
             faultAt((char) letter + "1,2;", twoNumbers ? Due.NONE : 0);
             faultAt((char) letter + "1,2,3;", letter == 'x' ? Due.NONE : 0);
+            for (String rest : new String[] {"", ";", "1;", "1,2,3,4;"}) faultAt((char) letter + rest, 0);
         }
         for (String text : new String[] {"pp1,2;", "1,2;", ";", ",", " p1,2;", "p", "k", "x"}) fault(text, 0);
     }
@@ -257,6 +258,9 @@ public final class EdgesBookTest {
             fault(item + "p" + other + "," + n + ";", Due.NONE);
             fault(item + "p0" + n + ",00" + other + ";", item.length());
         }
+        fault("p4,5;p6,7;k1,1;p8,9;p4,0;", 20);
+        fault("p4,5;p6,7;k1,1;p8,9;p0,5;", 20);
+        fault("p4,5;p6,7;k1,1;p8,9;p5,4;", Due.NONE);
         StringBuilder twelve = new StringBuilder();
         for (int n = 0; n < 12; n++) twelve.append('p').append(n).append(',').append((n + 7) % 12).append(';');
         fault(twelve.toString(), Due.NONE);
@@ -421,6 +425,7 @@ public final class EdgesBookTest {
     private static void severalChanges() {
         Due.says(7, "several one behind the other");
         names("p0,0;x0,1,1;x1,2,1;", 0, 2, 2);
+        names("x0,1,1;p0,0;x1,2,1;", 0, 2, 2);
         names("p0,0;x1,2,1;x0,1,1;", 0, 1, 1);
         names("p0,0;x0,1,1;x0,1,1;", 0, 0, 0);
         names("p0,0;x0,1,1;x1,0,2;", 0, 1, 0);

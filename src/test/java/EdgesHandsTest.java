@@ -4,6 +4,7 @@ public final class EdgesHandsTest {
 
     public static void main(String[] args) {
         apart();
+        apartForAll();
         orLessApart();
         callsBetween();
         lowestCall();
@@ -37,6 +38,32 @@ public final class EdgesHandsTest {
         Due.due("100", c.apart(100), Due.BAD);
         Due.due("-1", c.apart(-1), Due.BAD);
         Due.due("still 99", c.apart(99), 99);
+    }
+
+    private static void apartForAll() {
+        Due.says(9, "T: what it was. BAD.");
+        // Nothing but PAUSES 10 apart is alike from DAY to DAY; each object is asked once.
+        for (int t = 9; t <= 10; t++) {
+            boolean one = t == 10;
+            Due.due("hand with T " + t, pausesTenApart(t).hand(1), one ? 0 : 1);
+            Due.due("hands with T " + t, pausesTenApart(t).hands(), one ? 1 : 2);
+            Due.due("like with T " + t, pausesTenApart(t).like(0, 3, 4), one ? 3 : 0);
+            Due.due("follow with T " + t, pausesTenApart(t).follow(0, 3, 0), one ? 4 : Due.NONE);
+            Due.due("sum with T " + t, pausesTenApart(t).sum(0), one ? 3 : 0);
+            Due.due("rules with T " + t, pausesTenApart(t).rules(0), one ? 2 : 4095);
+            Due.due("trace with T " + t, pausesTenApart(t).trace(1, 4), one ? 3 : Due.NONE);
+            Due.due("held with T " + t, pausesTenApart(t).held(1, 0), one ? 1 : 0);
+            Due.due("lacks with T " + t, pausesTenApart(t).lacks(3, 0, 1), one ? 11 : 3);
+            Due.due("show with T " + t, pausesTenApart(t).show(0, 1), one ? 8 | 16 : 0);
+            Due.due("odds with T " + t, pausesTenApart(t).odds(0, 1, 0), 1);
+        }
+    }
+
+    private static CallSigns pausesTenApart(int t) {
+        CallSigns c = Due.with(Due.on(0, 3, 0, 0, 89), Due.on(1, 4, 1, 1, 99));
+        Due.take(c, "p3,3;p4,4;");
+        c.apart(t);
+        return c;
     }
 
     /** A CALL of which the PAUSE alone matters. */
@@ -236,6 +263,13 @@ public final class EdgesHandsTest {
         Due.add(c, Due.on(1, 5, 0, 2, 50));
         Due.due("LIKE 1", c.follow(0, 3, 0), 5);
         Due.due("LIKE 1, sure", c.follow(0, 3, 1), 1);
+        // The lowest has nobody, the next one has.
+        CallSigns none = Due.with(Due.on(0, 0, 0, 0, 0), Due.on(0, 1, 1, 1, 30), Due.on(1, 5, 2, 1, 60));
+        Due.due("nobody for 0", none.follow(0, 0, 0), Due.NONE);
+        Due.due("5 for 1", none.follow(0, 1, 0), 5);
+        Due.due("5 for 1, sure", none.follow(0, 1, 1), 1);
+        Due.due("the sum of 1 alone", none.sum(0), 2);
+        Due.due("the rules of 1 alone", none.rules(0), 16);
         CallSigns two = Due.with(Due.on(0, 3, 0, 0, 0), Due.on(0, 7, 1, 0, 50), Due.on(1, 9, 2, 0, 90));
         Due.due("one of two", two.follow(0, 3, 0), 9);
         Due.due("none for the other", two.follow(0, 7, 0), Due.NONE);
@@ -272,19 +306,21 @@ public final class EdgesHandsTest {
         Due.due("5 has none by it", d.follow(0, 5, 0), Due.NONE);
         Due.due("0 is not sure", d.follow(0, 0, 1), 0);
         Due.due("4 in all", d.sum(0), 4);
-        // 0 is bound to 6 by its HAND; 1 and 2 may have 3 and 4 either way.
-        CallSigns e = Due.with(Due.on(0, 0, 0, 0, 0), Due.on(0, 1, 1, 1, 20), Due.on(0, 2, 2, 1, 40),
-                Due.on(1, 6, 3, 2, 0), Due.on(1, 3, 4, 1, 60), Due.on(1, 4, 5, 1, 80));
+        CallSigns e = oneBoundTwoOpen();
         Due.due("0", e.follow(0, 0, 0), 6);
         Due.due("then the next has the lower one", e.follow(0, 1, 0), 3);
         Due.due("and the last the other", e.follow(0, 2, 0), 4);
     }
 
+    /** 0 is bound to 6 by its HAND; 1 and 2 may have 3 and 4 either way. */
+    private static CallSigns oneBoundTwoOpen() {
+        return Due.with(Due.on(0, 0, 0, 0, 0), Due.on(0, 1, 1, 1, 20), Due.on(0, 2, 2, 1, 40),
+                Due.on(1, 6, 3, 2, 0), Due.on(1, 3, 4, 1, 60), Due.on(1, 4, 5, 1, 80));
+    }
+
     private static void sure() {
         Due.says(14, "SURE is a pair that is in each pairing of that sum.");
-        // 0 is bound to 6 by its HAND; 1 and 2 may have 3 and 4 either way.
-        CallSigns c = Due.with(Due.on(0, 0, 0, 0, 0), Due.on(0, 1, 1, 1, 20), Due.on(0, 2, 2, 1, 40),
-                Due.on(1, 6, 3, 2, 0), Due.on(1, 3, 4, 1, 60), Due.on(1, 4, 5, 1, 80));
+        CallSigns c = oneBoundTwoOpen();
         Due.due("0 is", c.follow(0, 0, 1), 1);
         Due.due("1 is not", c.follow(0, 1, 1), 0);
         Due.due("2 is not", c.follow(0, 2, 1), 0);
@@ -343,6 +379,7 @@ public final class EdgesHandsTest {
         Due.due("11 to 0 and 0 to 1: both by 1", c.rules(0), 2);
         Due.add(c, Due.on(0, 5, 4, 4, 90), Due.on(1, 7, 5, 5, 90));
         Due.due("5 to 7: none is left", c.rules(0), 0);
+        Due.due("who has nobody for sure is no pair", Due.with(Due.on(0, 3, 0, 0, 0), Due.on(1, 5, 1, 1, 50)).rules(0), 4095);
         CallSigns d = Due.with(Due.on(0, 1, 0, 0, 0), Due.on(1, 4, 1, 1, 0), Due.on(0, 5, 2, 2, 30), Due.on(1, 5, 3, 2, 60),
                 Due.on(1, 6, 4, 2, 90));
         Due.due("5 to 5 is not SURE, so only 1 to 4 counts", d.rules(0), 8);

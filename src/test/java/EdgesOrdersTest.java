@@ -94,6 +94,7 @@ public final class EdgesOrdersTest {
         Due.says(20, "1 ANSWERED, 2 PASSED ON (both: 3). BAD.");
         CallSigns c = Due.with(Due.at(0, 1, 10, 5), Due.at(1, 0, 11, 6), Due.at(1, 2, 12, 5));
         Due.due("both", c.fate(0), 3);
+        Due.due("both, the other way round", Due.with(Due.at(0, 1, 10, 5), Due.at(1, 2, 10, 5), Due.at(1, 0, 11, 6)).fate(0), 3);
         Due.due("neither", c.fate(2), 0);
         Due.due("no such one", c.fate(3), Due.BAD);
         Due.due("no such one", c.fate(-1), Due.BAD);
@@ -230,6 +231,12 @@ public final class EdgesOrdersTest {
         Due.due("9 below 0", e.tree(9, 0, 0, 0), 0);
         Due.due("or below 5", e.tree(9, 0, 0, 1), 0);
         Due.due("5 SURE below 0", e.tree(5, 0, 0, 1), 1);
+        // The lowest is SURE below 3, though 7 is anywhere.
+        CallSigns low = Due.with(Due.at(3, 0, 0, 1), Due.at(0, 3, 1, 2), Due.at(0, 7, 20, 1));
+        Due.due("0 below 3", low.tree(0, 0, 0, 0), 3);
+        Due.due("SURE", low.tree(0, 0, 0, 1), 1);
+        Due.due("3 below 7", low.tree(3, 0, 0, 0), 7);
+        Due.due("not SURE", low.tree(3, 0, 0, 1), 0);
     }
 
     private static void belowNone() {
@@ -301,6 +308,8 @@ public final class EdgesOrdersTest {
         CallSigns c = Due.with(by(1, 0, 10, 6, 50), by(0, 1, 10, 5, 10));
         Due.due("in the same HOUR with a lower number", c.lacks(1, 0, 0) & 2, 2);
         Due.due("with a higher number", c.lacks(0, 0, 0) & 2, 0);
+        CallSigns both = Due.with(by(0, 1, 10, 5, 10), by(1, 0, 11, 6, 50), by(0, 1, 12, 7, 90));
+        Due.due("it answers and is ANSWERED: nothing is lacking", both.lacks(1, 0, 0), 0);
     }
 
     private static void asManyMinutes() {
@@ -330,6 +339,7 @@ public final class EdgesOrdersTest {
         Due.due("one of three by another HAND", c.lacks(0, 1, 3) & 8, 0);
         c.apart(4);
         Due.due("four apart it is the same", c.lacks(0, 1, 3) & 8, 8);
+        Due.due("with CALL 0 by the other one", Due.with(by(2, 3, 0, 5, 10), by(0, 1, 9, 5, 10)).lacks(0, 0, 0) & 8, 8);
         Due.due("a HAND of its own", Due.with(by(0, 1, 0, 5, 10), by(0, 2, 1, 5, 10)).lacks(0, 0, 0) & 8, 0);
         Due.due("that sends, not that is called", Due.with(by(0, 1, 0, 5, 10), by(2, 0, 1, 5, 90)).lacks(0, 0, 0) & 8, 0);
     }
