@@ -41,7 +41,7 @@ final class Due {
         sentence = promise + " (" + words + "): ";
     }
 
-    private static String document() {
+    static String document() {
         if (document == null) {
             try {
                 document = Files.readString(Path.of(System.getProperty("doc", "../shared/DOC.md")));

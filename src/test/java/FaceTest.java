@@ -5,20 +5,22 @@ import java.lang.reflect.Method;
 import java.lang.reflect.Modifier;
 import java.nio.file.Files;
 import java.nio.file.Path;
+import java.util.Arrays;
+import java.util.Map;
 import java.util.Set;
-import java.util.TreeSet;
+import java.util.TreeMap;
 import java.util.regex.Matcher;
 import java.util.regex.Pattern;
 
 /** The public face, the rules of LANGUAGE.md that a test can see, and that calls make no objects. */
 public final class FaceTest {
-    private static final String METHODS = "call6 write2 wipe0 fault0 take0 name2 post2 apart1 hand1 hands0 odds3 like3 "
-            + "follow3 sum1 rules1 trace2 held2 within1 fate1 sign4 tree4 lacks3 show2 hearer3 bearing6 patch3 isIn4 "
-            + "moved3 listen3 silent3 event1 ahead3 waves4 keep0 back0 count1";
+    /** Of each method that the document's face has: its name, and what it takes. */
+    private static final Map<String, String> METHODS = new TreeMap<>();
 
     private FaceTest() { }
 
     public static void main(String[] args) throws Exception {
+        readFace(Due.document());
         face();
         constants();
         members(CallSigns.class);
@@ -27,20 +29,27 @@ public final class FaceTest {
         Due.end("FaceTest");
     }
 
+    private static void readFace(String doc) {
+        int start = doc.indexOf("## The public face");
+        String face = doc.substring(start, doc.indexOf("\n## ", start));
+        Matcher method = Pattern.compile("public int (\\w+)\\(([^)]*)\\);").matcher(face);
+        while (method.find()) METHODS.put(method.group(1), method.group(2).replaceAll("(int|long) \\w+", "$1"));
+        Due.due("methods of the document's face", METHODS.size(), 36);
+    }
+
     private static void face() {
         Due.holds("public and final", Modifier.isPublic(CallSigns.class.getModifiers())
                 && Modifier.isFinal(CallSigns.class.getModifiers()));
-        Set<String> found = new TreeSet<>();
+        Map<String, String> found = new TreeMap<>();
         for (Method m : CallSigns.class.getDeclaredMethods()) {
             if (Modifier.isPrivate(m.getModifiers())) continue;
-            found.add(m.getName() + m.getParameterCount());
+            String takes = Arrays.toString(m.getParameterTypes());
+            Due.holds(m + " is the only one of its name",
+                    found.put(m.getName(), takes.substring(1, takes.length() - 1)) == null);
             Due.holds(m + " is public and answers an int", Modifier.isPublic(m.getModifiers())
                     && !Modifier.isStatic(m.getModifiers()) && m.getReturnType() == int.class);
-            for (Class<?> type : m.getParameterTypes()) {
-                Due.holds(m + " takes ints", type == int.class || (m.getName().equals("write") && type == long.class));
-            }
         }
-        Due.holds("methods are " + found, found.equals(new TreeSet<>(Set.of(METHODS.split(" ")))));
+        Due.holds("methods are " + found + ", due are " + METHODS, found.equals(METHODS));
         Constructor<?>[] made = CallSigns.class.getDeclaredConstructors();
         Due.holds("one public constructor", made.length == 1 && Modifier.isPublic(made[0].getModifiers())
                 && made[0].getParameterCount() == 0);
@@ -59,8 +68,6 @@ public final class FaceTest {
     }
 
     private static void members(Class<?> of) {
-        Set<String> publicNames = new TreeSet<>();
-        for (String method : METHODS.split(" ")) publicNames.add(method.substring(0, method.length() - 1));
         int fields = 0;
         for (Field f : of.getDeclaredFields()) {
             if (Modifier.isStatic(f.getModifiers())) {
@@ -73,7 +80,7 @@ public final class FaceTest {
         for (Method m : of.getDeclaredMethods()) {
             Due.holds(m + " takes at most seven", m.getParameterCount() <= 7);
             Due.holds(m + " does not bear a public one's name",
-                    Modifier.isPublic(m.getModifiers()) || !publicNames.contains(m.getName()));
+                    Modifier.isPublic(m.getModifiers()) || !METHODS.containsKey(m.getName()));
         }
         Class<?>[] inside = of.getDeclaredClasses();
         Due.holds(of + " has some twelve classes at most", inside.length <= 12);
@@ -118,10 +125,12 @@ public final class FaceTest {
     private static void callsMakeNothing() {
         com.sun.management.ThreadMXBean bean = (com.sun.management.ThreadMXBean) ManagementFactory.getThreadMXBean();
         long id = Thread.currentThread().getId();
-        CallSigns c = new CallSigns();
-        allKinds(c);
+        // A round is some 300 calls, and an object is used for at most 512: so each round has its own.
+        CallSigns[] objects = new CallSigns[50];
+        for (int i = 0; i < objects.length; i++) objects[i] = new CallSigns();
+        allKinds(new CallSigns());
         long before = bean.getThreadAllocatedBytes(id);
-        for (int i = 0; i < 50; i++) allKinds(c);
+        for (CallSigns c : objects) allKinds(c);
         long made = bean.getThreadAllocatedBytes(id) - before;
         Due.holds("50 rounds of all calls made " + made + " bytes", made < 20_000);
     }
